@@ -27,6 +27,7 @@ public final class ActsEdgesTest {
         undoGivesAllBack();
         fourteenActsAtMost();
         theFirstOneIsForgotten();
+        theFirstPutIsForgotten();
         undoMakesRoom();
         undoLeavesTheRest();
         refusedActsAreNoActs();
@@ -406,6 +407,26 @@ public final class ActsEdgesTest {
             }
             is("undo() of none", x.undo(), LATE);
             is("about(4)", x.about(4), more);
+        }
+    }
+
+    private static void theFirstPutIsForgotten() {
+        DUE.sentence("ACTS: when it is full, the first one is forgotten (of puts and strikes)");
+        IdeaCage x = Cages.made("I9Pa3Pf0Ph3");
+        Cages.put(x, "001122333");
+        Cages.strike(x, "3321001");
+        DUE.same("columns", Cages.columns(x), "0011");
+        is("about(6)", x.about(6), 14);
+        undoneTo(x, "0111 1111 2111 2211 2221 2222 2223 2222 2221 2220 2210 2200 2100 2000".split(" "));
+        is("undo() of none", x.undo(), LATE);
+        is("two puts can not be undone", x.about(2), 2);
+        is("what was had then", x.about(3), 1);
+    }
+
+    private static void undoneTo(IdeaCage x, String[] columns) {
+        for (int i = 0; i < columns.length; i++) {
+            is("undo()", x.undo(), columns.length - 1 - i);
+            DUE.same("columns after undo " + i, Cages.columns(x), columns[i]);
         }
     }
 

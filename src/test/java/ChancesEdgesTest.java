@@ -1,4 +1,5 @@
 import java.math.BigInteger;
+import java.util.Random;
 
 /** Promises 19 to 27, tried, rests, chances, slots: each sentence that names a boundary case. */
 public final class ChancesEdgesTest {
@@ -25,6 +26,7 @@ public final class ChancesEdgesTest {
         restsWithStrikesThatCanNotBe();
         restsTheOneFirst();
         restsAtEachColumn();
+        restsAreNeverNone();
         wetIsBad();
         wetAtNoneAndAll();
         wetOfEachTenth();
@@ -317,6 +319,39 @@ public final class ChancesEdgesTest {
                 is("nothing is changed", x.about(2), 2);
             }
         }
+    }
+
+    /** No idea has none (NOTES.md tells why), so that NONE is never due. */
+    private static void restsAreNeverNone() {
+        DUE.sentence("Promise 22: how many (what = 0), the first one (1); NONE");
+        Random lots = new Random(22);
+        for (int time = 0; time < 3000; time++) {
+            IdeaCage x = Cages.made(anyIdea(lots));
+            for (int act = 0; act < 24; act++) {
+                if (lots.nextInt(3) == 0) {
+                    x.strike(lots.nextInt(4));
+                } else {
+                    x.put(lots.nextInt(4));
+                }
+            }
+            int one = lots.nextInt(4);
+            int other = (one + 1 + lots.nextInt(3)) % 4;
+            int count = x.rests(one, other, 0);
+            int first = x.rests(one, other, 1);
+            is("1 .. 9 rests", count >= 1 && count <= 9 ? 1 : 0, 1);
+            is("a first one, two figures of 0 .. 2", first >= 0 && first <= 22 && first % 10 <= 2 ? 1 : 0, 1);
+        }
+    }
+
+    private static String anyIdea(Random lots) {
+        StringBuilder text = new StringBuilder("I").append(lots.nextInt(10));
+        for (int part = 0; part < 7; part++) {
+            String cell = "P" + (char) ('a' + lots.nextInt(12));
+            if (text.indexOf(cell) < 0) {
+                text.append(cell).append(lots.nextInt(4));
+            }
+        }
+        return text.toString();
     }
 
     // ---- 23 wet

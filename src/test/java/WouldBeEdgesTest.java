@@ -435,6 +435,8 @@ public final class WouldBeEdgesTest {
         Cages.put(x, "00");
         x.strike(0);
         is("an air, till it rains", x.judge(3, 400300400L), 2);
+        is("an air, had again and again", x.judge(4, 400510400400L), NONE);
+        is("rain, then no air", x.judge(2, 300400L), 1);
         is("its pole, then rain", x.judge(3, 100300400L), NONE);
         is("about(2)", x.about(2), 1);
         is("about(3)", x.about(3), 3);
