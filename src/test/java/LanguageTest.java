@@ -7,6 +7,7 @@ import java.nio.file.Files;
 import java.nio.file.Path;
 import java.util.Arrays;
 import java.util.TreeSet;
+import java.util.regex.Matcher;
 import java.util.regex.Pattern;
 
 /** The face of the document, and what of LANGUAGE.md can be seen by reflection or by words. */
@@ -24,13 +25,22 @@ public final class LanguageTest {
         "native", "volatile", "transient", "->", "::", "System", "Object", "Thread", "Random",
         "@\\w+", "protected", "var", "yield", "equals", "hashCode", "toString"
     };
+    /** The library's types that the class may name at all, beside its own. */
+    private static final String[] LIBRARY = {
+        "String", "StringBuilder", "Integer", "Long", "Math", "Arrays", "ArrayList", "List"
+    };
+    private static final int MOST_LINES = 60;
+    private static final int MOST_PARAMETERS = 7;
     private static int wrong = 0;
 
     public static void main(String[] args) throws IOException {
         face();
         constants();
         nestedClasses();
+        parameters();
         words();
+        namesOfTypes();
+        lengthsOfMethods();
         System.out.println(wrong + " rules of the face and the language not kept");
         if (wrong != 0) {
             System.exit(1);
@@ -115,14 +125,59 @@ public final class LanguageTest {
         return all;
     }
 
+    private static void parameters() {
+        for (Class<?> type : concat(IdeaCage.class.getDeclaredClasses(), IdeaCage.class)) {
+            for (Method method : type.getDeclaredMethods()) {
+                must(method.getParameterCount() <= MOST_PARAMETERS, told(method) + " has few parameters");
+            }
+        }
+    }
+
+    private static String source() throws IOException {
+        return Files.readString(Path.of("src/main/java/IdeaCage.java"));
+    }
+
+    private static String withoutComments(String source) {
+        return source.replaceAll("(?s)/\\*.*?\\*/", "").replaceAll("//[^\n]*", "");
+    }
+
     private static void words() throws IOException {
-        String source = Files.readString(Path.of("src/main/java/IdeaCage.java"));
-        String code = source.replaceAll("(?s)/\\*.*?\\*/", "").replaceAll("//[^\n]*", "");
+        String source = source();
+        String code = withoutComments(source);
         for (String word : FORBIDDEN) {
             boolean isWord = Character.isLetter(word.charAt(0));
             Pattern pattern = Pattern.compile(isWord ? "\\b" + word + "\\b" : word);
             must(!pattern.matcher(code).find(), "no '" + word + "' in the class");
         }
         must(source.chars().allMatch(c -> c < 128), "plain signs alone");
+    }
+
+    private static void namesOfTypes() throws IOException {
+        TreeSet<String> known = new TreeSet<>(Arrays.asList(LIBRARY));
+        for (Class<?> type : concat(IdeaCage.class.getDeclaredClasses(), IdeaCage.class)) {
+            known.add(type.getSimpleName());
+        }
+        Matcher name = Pattern.compile("\\b[A-Z]\\w*[a-z]\\w*").matcher(withoutComments(source()));
+        while (name.find()) {
+            must(known.contains(name.group()), "a type of its own or of the library: " + name.group());
+        }
+    }
+
+    /** A method begins with a row that ends in ") {", and ends with a brace as far from the left. */
+    private static void lengthsOfMethods() throws IOException {
+        String[] rows = source().split("\n");
+        int methods = 0;
+        for (int first = 0; first < rows.length; first++) {
+            Matcher head = Pattern.compile("( {4}| {8})\\w[\\w ]*\\(.*\\) \\{").matcher(rows[first]);
+            if (head.matches() && !rows[first].trim().matches("(if|for|while|switch) .*")) {
+                int last = first;
+                while (last < rows.length && !rows[last].equals(head.group(1) + "}")) {
+                    last++;
+                }
+                methods++;
+                must(last - first < MOST_LINES, "a short method: " + rows[first].trim());
+            }
+        }
+        must(methods > FACE.length, "the methods are found: " + methods);
     }
 }

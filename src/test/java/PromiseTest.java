@@ -52,19 +52,6 @@ public final class PromiseTest {
         return x;
     }
 
-    /** The columns are told as figures. */
-    private static void putAll(IdeaCage x, String columns) {
-        for (int i = 0; i < columns.length(); i++) {
-            x.put(columns.charAt(i) - '0');
-        }
-    }
-
-    private static void strikeAll(IdeaCage x, String columns) {
-        for (int i = 0; i < columns.length(); i++) {
-            x.strike(columns.charAt(i) - '0');
-        }
-    }
-
     private static void promise1New() {
         IdeaCage x = new IdeaCage();
         for (int what = 0; what <= 8; what++) {
@@ -149,7 +136,7 @@ public final class PromiseTest {
 
     private static void promise5Idea() {
         IdeaCage x = made("I4Pa0Pe3");
-        putAll(x, "00");
+        Cages.put(x, "00");
         x.rain();
         x.keep(0);
         x.keep(1);
@@ -188,7 +175,7 @@ public final class PromiseTest {
 
     private static void promise6About() {
         IdeaCage x = made("I6Pb0Pa0Pe1Pf0");
-        putAll(x, "0011");
+        Cages.put(x, "0011");
         x.rain();
         x.attempt(0, 0);
         x.attempt(0, 0);
@@ -236,7 +223,7 @@ public final class PromiseTest {
 
     private static void promises8And9ColumnAt() {
         IdeaCage x = made("I9Pp0Pa0");
-        putAll(x, "33330");
+        Cages.put(x, "33330");
         is("column(3)", x.column(3), 4);
         is("column(0)", x.column(0), 1);
         is("column(1)", x.column(1), 0);
@@ -277,7 +264,7 @@ public final class PromiseTest {
         is("strike(4)", x.strike(4), UNKNOWN);
         is("strike(-1)", x.strike(-1), UNKNOWN);
         is("strike(0)", x.strike(0), LATE);
-        putAll(x, "000");
+        Cages.put(x, "000");
         is("had", x.about(3), 3);
         is("strike: i stands on e", x.strike(0), 0);
         is("store", x.about(1), 2);
@@ -292,8 +279,8 @@ public final class PromiseTest {
     /** Puts, then strikes; which parts are had behind it. */
     private static void stands(String text, String put, String struck, int had) {
         IdeaCage x = made(text);
-        putAll(x, put);
-        strikeAll(x, struck);
+        Cages.put(x, put);
+        Cages.strike(x, struck);
         is(text + " put " + put + " struck " + struck, x.about(3), had);
     }
 
@@ -321,11 +308,11 @@ public final class PromiseTest {
         IdeaCage stair = made("I9Pm2Pj2Pg2Pd0");
         stair.put(3);
         stair.strike(3);
-        putAll(stair, "221110000");
-        strikeAll(stair, "000011122");
+        Cages.put(stair, "221110000");
+        Cages.strike(stair, "000011122");
         is("a stair from d to m", stair.about(3), 15);
         IdeaCage ring = made("I9Pj1Pi2Pk2Pf0Pe0Pg0");
-        putAll(ring, "000111222");
+        Cages.put(ring, "000111222");
         is("ring had", ring.about(3), 63);
         is("a strike", ring.strike(1), 0);
         is("f keeps i, j and k", ring.strike(0), 0);
@@ -338,15 +325,15 @@ public final class PromiseTest {
 
     private static void promise12Rain() {
         IdeaCage x = made("I9Pa3Pf3Pj0Pn2Pc3");
-        putAll(x, "0111122");
+        Cages.put(x, "0111122");
         is("had", x.about(3), 31);
         is("rain on poles", x.rain(), 0);
-        strikeAll(x, "1112");
+        Cages.strike(x, "1112");
         is("had still", x.about(3), 31);
         is("rain: f has no pole, j and n go too", x.rain(), 3);
         is("had", x.about(3), 17);
         is("rained", x.about(4), 2);
-        strikeAll(x, "02");
+        Cages.strike(x, "02");
         is("airs on the ground", x.about(3), 17);
         is("rain on the ground", x.rain(), 2);
         is("rained", x.about(4), 3);
@@ -360,8 +347,8 @@ public final class PromiseTest {
 
     private static void promise13Undo() {
         IdeaCage x = made("I9Pa0Pe3Pi0");
-        putAll(x, "000");
-        strikeAll(x, "00");
+        Cages.put(x, "000");
+        Cages.strike(x, "00");
         is("rain", x.rain(), 2);
         is("undo rain", x.undo(), 5);
         is("had", x.about(3), 7);
@@ -386,9 +373,9 @@ public final class PromiseTest {
         }
         is("six are forgotten", x.about(4), 6);
         is("undo none", x.undo(), LATE);
-        putAll(x, "000011112");
+        Cages.put(x, "000011112");
         is("four strikes and a put", x.strike(2), 0);
-        strikeAll(x, "100");
+        Cages.strike(x, "100");
         x.put(3);
         is("acts at most", x.about(6), 14);
         int[] polesThen = {5, 6, 7, 8, 9, 8};
@@ -402,14 +389,14 @@ public final class PromiseTest {
 
     private static void promises14And15LosesDown() {
         IdeaCage x = made("I9Pf0Pj0Pk2Pc0");
-        putAll(x, "111222");
+        Cages.put(x, "111222");
         is("loses(1)", x.loses(1), 0);
         is("loses(2): k stands askew on f", x.loses(2), 0);
         is("down(1)", x.down(1), 2);
         is("down(2)", x.down(2), 0);
         is("down(0)", x.down(0), 0);
         is("nothing changed", x.about(2), 6);
-        strikeAll(x, "2211");
+        Cages.strike(x, "2211");
         is("had", x.about(3), 8);
         x.undo();
         is("loses(1) now: f, j and k", x.loses(1), 7);
@@ -422,11 +409,11 @@ public final class PromiseTest {
         is("down(4)", x.down(4), UNKNOWN);
         is("down(-1)", x.down(-1), UNKNOWN);
         IdeaCage high = made("I9Pm0");
-        putAll(high, "0000");
+        Cages.put(high, "0000");
         is("down of four", high.down(0), 4);
         is("loses of four", high.loses(0), 1);
         IdeaCage bare = made("I9");
-        putAll(bare, "3333");
+        Cages.put(bare, "3333");
         is("down without parts", bare.down(3), 0);
     }
 
@@ -506,7 +493,7 @@ public final class PromiseTest {
         is("nothing changed", x.about(4), 0);
         is("nothing changed", x.about(3), 3);
         IdeaCage full = made("I9");
-        putAll(full, "2222");
+        Cages.put(full, "2222");
         is("put on four", full.judge(1, 102), 0);
         is("strike, put, put", full.judge(3, 202102102L), 2);
         is("five poles", full.judge(2, 524525L), 1);
@@ -515,7 +502,7 @@ public final class PromiseTest {
 
     private static void share(String text, int part, int above, int below) {
         IdeaCage x = made(text);
-        putAll(x, "0123");
+        Cages.put(x, "0123");
         is("share " + part + " of " + text, x.share(part, true), above);
         is("share " + part + " of " + text, x.share(part, false), below);
         is("share past the parts", x.share((text.length() - 2) / 3, true), UNKNOWN);
@@ -620,14 +607,14 @@ public final class PromiseTest {
         is("the first one", free.rests(0, 3, 1), 0);
         // Column 1 strikes (j stands on f); column 0 has as much by a part more as by a pole less.
         IdeaCage even = made("I9Pi0Pf0Pj2");
-        putAll(even, "00111");
+        Cages.put(even, "00111");
         is("rests(1, 0, 0)", even.rests(1, 0, 0), 2);
         is("rests(1, 0, 1)", even.rests(1, 0, 1), 21);
         // Keys f and g lean on each other: either can do without its pole, both can not.
         IdeaCage keys = made("I9Pe3Pf1Pg1Ph3");
-        putAll(keys, "0033");
-        strikeAll(keys, "0033");
-        putAll(keys, "1122");
+        Cages.put(keys, "0033");
+        Cages.strike(keys, "0033");
+        Cages.put(keys, "1122");
         is("rests(1, 2, 0)", keys.rests(1, 2, 0), 2);
         is("rests(1, 2, 1)", keys.rests(1, 2, 1), 2);
     }
@@ -641,17 +628,17 @@ public final class PromiseTest {
         IdeaCage x = made("I9Pe0Pf0Pg0Ph0");
         wet(x, 0, 5, 1, 1);
         wet(x, 1, 5, 0, 1);
-        putAll(x, "00");
+        Cages.put(x, "00");
         wet(x, 1, 0, 1, 1);
         wet(x, 1, 10, 0, 1);
         wet(x, 1, 3, 7, 10);
         wet(x, 1, 4, 3, 5);
-        putAll(x, "11");
+        Cages.put(x, "11");
         wet(x, 1, 5, 3, 4);
         wet(x, 2, 5, 1, 4);
         wet(x, 2, 3, 49, 100);
         wet(x, 3, 3, 0, 1);
-        putAll(x, "2233");
+        Cages.put(x, "2233");
         wet(x, 4, 1, 6561, 10000);
         wet(x, 1, 9, 3439, 10000);
         is("wet(8, 0)", x.wet(8, 0, true), BAD);
@@ -662,12 +649,12 @@ public final class PromiseTest {
         is("nothing changed", x.about(2), 8);
         is("nothing changed", x.about(3), 15);
         IdeaCage air = made("I9Pe3Pi0");
-        putAll(air, "000");
-        strikeAll(air, "0");
+        Cages.put(air, "000");
+        Cages.strike(air, "0");
         wet(air, 2, 10, 1, 1);
         // One top pole alone goes from each, and f's stair rests on either.
         IdeaCage two = made("I9Pe0Pf0Pj2");
-        putAll(two, "00111");
+        Cages.put(two, "00111");
         two.strike(1);
         wet(two, 2, 5, 3, 4);
         wet(two, 3, 5, 1, 4);
@@ -733,8 +720,8 @@ public final class PromiseTest {
         }
         IdeaCage air = made("I1Pe3");
         IdeaCage both = made("I2Pe3");
-        putAll(both, "00");
-        strikeAll(both, "00");
+        Cages.put(both, "00");
+        Cages.strike(both, "00");
         for (int term = 0; term < 16; term++) {
             is("term " + term + " on nothing", oneTerm(air, term), 0);
             is("term " + term + " rains", oneTerm(both, term), term == 15 ? 0 : 1);
@@ -750,10 +737,10 @@ public final class PromiseTest {
         is("again(0)", x.again(0), LATE);
         is("keep nothing", x.keep(1), 0);
         is("again(0)", x.again(0), LATE);
-        putAll(x, "003");
+        Cages.put(x, "003");
         is("keep(0)", x.keep(0), 3);
         is("acts stay when kept", x.about(6), 3);
-        strikeAll(x, "003");
+        Cages.strike(x, "003");
         x.rain();
         is("had", x.about(3), 0);
         is("again(0)", x.again(0), 3);
@@ -777,7 +764,7 @@ public final class PromiseTest {
 
     private static void refusedChangesNothing() {
         IdeaCage x = made("I4Pa0Pe0");
-        putAll(x, "0000");
+        Cages.put(x, "0000");
         x.attempt(1, 1);
         x.keep(0);
         long before = look(x);
